@@ -125,6 +125,33 @@ public final class DaysTest {
         CHECK.found(none, "on(0) without STRIPS", none.on(0), NOTHING);
     }
 
+    private static void keepAllDays() {
+        PaceBorder x = Check.land("f1f2i3b146");
+        x.lots(20, 7);
+        x.lots(20, 8);
+        Check.days(x, 1, 0, 0);
+        x.undo(38);
+        x.day(0, 3);
+        x.day(0, 3);
+        CHECK.due("keep(0) of 40 DAYS", x.keep(0), 40);
+        long was = x.digest();
+        int[] places = new int[41];
+        for (int d = 0; d <= 40; d++) {
+            places[d] = x.lain(d);
+        }
+        x.undo(0);
+        Check.days(x, 20, 3, 0);
+        Check.days(x, 20, 1, 0);
+        CHECK.due("on(0)", x.on(0), 40);
+        CHECK.due("digest() as kept", x.digest(), was);
+        for (int d = 0; d <= 40; d++) {
+            CHECK.due("lain(" + d + ") as kept", x.lain(d), places[d]);
+        }
+        CHECK.due("kinds(0) by what was SAID, its own KIND among them", x.kinds(0) >> 1 & 1, 1);
+        x.undo(39);
+        CHECK.due("border() behind 39 DAYS", x.border(), places[39]);
+    }
+
     /** The numbers of seed 1: 48271, 182605794, 1291394886, 1914720637. */
     private static void lots() {
         PaceBorder x = Check.land("s0s0s0s0s0s0b311");
@@ -158,6 +185,7 @@ public final class DaysTest {
         undo();
         lain();
         keepAndOn();
+        keepAllDays();
         lots();
         CHECK.end();
     }

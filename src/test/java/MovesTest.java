@@ -165,7 +165,32 @@ public final class MovesTest {
         CHECK.due("most(0, 20): DAY 39, not 49", x.most(0, 20), 22);
     }
 
+    /** Rows too long to be tried one by one: what is laid must do what was answered. */
+    private static void longRows() {
+        PaceBorder x = Check.land("f3w1r2i4t5f2r1s1b423");
+        CHECK.due("polite(1, 20, 0): an INN aside, a RIVER and a WALL", x.polite(1, 20, 0), 4);
+        for (int n = 0; n <= 20; n++) {
+            for (int to = 0; to <= 8; to++) {
+                int rudeness = x.polite(to, n, 0);
+                if (rudeness == PaceBorder.NONE) {
+                    CHECK.due("reach(" + n + ") without " + to, x.reach(n) >> to & 1, 0);
+                    continue;
+                }
+                CHECK.due("reach(" + n + ") with " + to, x.reach(n) >> to & 1, 1);
+                CHECK.due("judge() of polite()", x.judge(0), n);
+                CHECK.due("where it is then", x.asked(), to);
+                CHECK.due("rude() of polite()", x.rude(0), rudeness);
+            }
+            for (int i = 0; i < 8; i++) {
+                int paid = x.least(i, n, 1);
+                CHECK.due("judge() of least()", x.judge(1), n);
+                CHECK.due("pays() of least()", x.pays(i, 1), paid);
+            }
+        }
+    }
+
     public static void main(String[] args) {
+        longRows();
         moves();
         judgeAndRude();
         pays();
